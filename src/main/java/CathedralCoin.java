@@ -21,9 +21,8 @@ public final class CathedralCoin {
     private static final int ABOUT_BALANCE = 30;
     private static final int BALANCE_LIFT = 20000000;
 
-    private final Works works = new Works();
-    private final Town town = new Town(works);
-    private final Town kept = new Town(works);
+    private final Town town = new Town();
+    private final Town kept = new Town();
     private final Tokens tokens = new Tokens();
     private final Reader reader = new Reader();
     private final Netting netting = new Netting();
@@ -129,7 +128,7 @@ public final class CathedralCoin {
             return OTHERS;
         }
         for (int i = 0; i < script.clauses; i++) {
-            if (!town.canDo(script, i)) {
+            if (!town.carryOut(script, i)) {
                 return i;
             }
         }
@@ -306,7 +305,7 @@ public final class CathedralCoin {
         private static final int MOST_PARTS = 99;
         private static final int TOLL_WITHOUT = 1;
 
-        private final Works works;
+        private final Works works = new Works();
         private int folk = 0;
         private final int[] marks = new int[MOST_FOLK];
         private final int[] sleeves = new int[MOST_FOLK];
@@ -321,10 +320,6 @@ public final class CathedralCoin {
         private final Debts debts = new Debts();
         private final int[] seen = new int[MOST_SEEN];
         private int seenCount = 0;
-
-        Town(Works works) {
-            this.works = works;
-        }
 
         void becomeLike(Town other) {
             folk = other.folk;
@@ -449,7 +444,8 @@ public final class CathedralCoin {
         }
 
         private int rubs(Text text, int who, int has, int onDay, int ifWet) {
-            if (text == null || text.rubs == null || !isFolk(who)) {
+            // Of nothing nothing goes, whatever the text says: its works are spared.
+            if (text == null || text.rubs == null || has < 1 || !isFolk(who)) {
                 return 0;
             }
             works.name(Tokens.WHO, who);
@@ -460,8 +456,8 @@ public final class CathedralCoin {
             return Math.max(0, Math.min(works.value(text.rubs), has));
         }
 
-        /** Does what one CLAUSE of a script asks for, if it can be. */
-        boolean canDo(Text script, int i) {
+        /** Does what one CLAUSE of a script asks for: whether it can be. */
+        boolean carryOut(Text script, int i) {
             switch (script.number(i, 0)) {
                 case Tokens.PAY:
                     return handOver(script.number(i, 3), script.number(i, 4),

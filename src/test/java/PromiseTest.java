@@ -88,6 +88,7 @@ public final class PromiseTest {
         best();
         seenAndRubbed();
         imageAndBack();
+        imageOfRows();
         about();
         System.out.println(wrong == 0 ? "all promises are kept" : wrong + " answers are not as due");
         if (wrong != 0) {
@@ -240,6 +241,13 @@ public final class PromiseTest {
         dueFault("toll 1<2;", 1, 6);
         dueFault("pay 1 of 2 from 0 to who;", 1, 21);
         dueFault("pay 1of2from0to1;", 0, -1);
+        dueFault("pay of 2 from 0 to 1;", 1, 4);
+        dueFault("grant to 1;", 1, 6);
+        dueFault("pass;", 1, 4);
+        dueFault("toll whoz;", 1, 5);
+        dueFault("toll whoA;", 1, 5);
+        dueFault("toll whoZ;", 1, 5);
+        dueFault("toll who_;", 1, 8);
         dueFault("grant 5 to 1", 1, 12);
         dueFault("pass -1;", 1, 5);
         // an if, part by part
@@ -463,6 +471,8 @@ public final class PromiseTest {
         dueToll("if 1=2 or 2=2?3:4 end", 3);
         dueToll("if 1=2 or 2=3?3:4 end", 4);
         dueToll("if 1=1 and 2=3?3:4 end", 4);
+        dueToll("if 1=2 and 2=2?3:4 end", 4);
+        dueToll("if 2=2 or 1=2?3:4 end", 3);
         dueToll("if 1=1 and 2=2?3:4 end", 3);
         dueToll("if 1=1 or 1=1 and 1=2?3:4 end", 3);
         dueToll("if 1=2 and 1=1 or 1=1?3:4 end", 3);
@@ -785,6 +795,8 @@ public final class PromiseTest {
         CathedralCoin coin = town(4);
         due("no MARKS", -1, coin.bell(5, 0));
         coin.grant(0, 1);
+        due("one MARK pays all", 5, coin.bell(5, 0));
+        due("the others nothing", 0, coin.bell(5, 1));
         coin.grant(1, 1);
         coin.grant(2, 1);
         int[][] bells = {{1, 1, 0, 0, 0}, {2, 1, 1, 0, 0}, {3, 1, 1, 1, 0}, {10, 4, 3, 3, 0},
@@ -976,6 +988,40 @@ public final class PromiseTest {
         coin.pass(4);
         due("back() to later", 3, coin.back());
         due("STEPS", 4, coin.about(7));
+    }
+
+    /** What is told anew behind an image doesn't reach it. */
+    private static void imageOfRows() {
+        promise = 25;
+        CathedralCoin coin = town(3);
+        tell(coin, "rubs 3;");
+        coin.by(0);
+        for (int i = 0; i < 32; i++) {
+            coin.grant(0, 10);
+        }
+        coin.owes(0, 1, 7);
+        coin.seen(317);
+        coin.image();
+        for (int i = 0; i < 30; i++) {
+            coin.undo();
+        }
+        for (int i = 0; i < 31; i++) {
+            coin.pay(0, 1, 1, 2);
+        }
+        coin.owes(0, 1, 0);
+        coin.owes(2, 0, 9);
+        coin.seen(-1);
+        coin.seen(5);
+        coin.back();
+        due("SEEN as it was", 2, coin.rubbed(0, -1));
+        due("BALANCE of 0", 20000000 - 7, coin.about(30));
+        due("BALANCE of 1", 20000000 + 7, coin.about(31));
+        due("BALANCE of 2", 20000000, coin.about(32));
+        for (int i = 29; i >= 0; i--) {
+            due("undo", i, coin.undo());
+            due("marks(0)", 20 + i * 10, coin.marks(0));
+        }
+        due("none", -1, coin.undo());
     }
 
     private static void about() {
