@@ -483,6 +483,12 @@ public final class PromiseTest {
         dueToll("1+if 1=2?3:if 2=2?5:6 end end-2", 4);
         dueToll("if if 1=1?2:3 end=2?7:8 end", 7);
         dueToll("if marks=100 and paid=33 and rest=1 and day=0 and who=0?9:0 end", 9);
+        // as much as can wait for one another: five values around each of eight
+        StringBuilder deep = new StringBuilder("1");
+        for (int i = 0; i < 8; i++) {
+            deep.insert(0, "if 1=2 or 1=1 and 0<0+1*").append("?1:0 end");
+        }
+        dueToll("2+3*" + deep, 5);
     }
 
     private static void pass() {
