@@ -1,68 +1,5 @@
 /** Each promise of the document by hand: ordinary calls, the edges that it names, and wrong ones. */
-public final class PromiseTest {
-    private static final int COIN = 720720;
-    private static final int LOW = Integer.MIN_VALUE;
-    private static final int HIGH = Integer.MAX_VALUE;
-
-    private static int wrong = 0;
-    private static int promise = 0;
-
-    private static void due(String call, long want, long got) {
-        if (got != want) {
-            wrong++;
-            System.out.println("promise " + promise + ": " + call + " answered " + got + ", due is " + want);
-        }
-    }
-
-    private static void due(String call, boolean want, boolean got) {
-        due(call, want ? 1 : 0, got ? 1 : 0);
-    }
-
-    /** A new object with so many of the FOLK, of 0, 1, 2, .. SLEEVES. */
-    private static CathedralCoin town(int folk) {
-        CathedralCoin coin = new CathedralCoin();
-        for (int i = 0; i < folk; i++) {
-            coin.folk(i);
-        }
-        return coin;
-    }
-
-    private static void tape(CathedralCoin coin, String text) {
-        coin.end(0);
-        for (int at = 0; at < text.length(); at += 20) {
-            int[] five = new int[5];
-            for (int i = 0; i < 20; i++) {
-                int sign = at + i < text.length() ? text.charAt(at + i) : 0;
-                five[i / 4] = five[i / 4] << 8 | sign;
-            }
-            coin.feed(five[0], five[1], five[2], five[3], five[4]);
-        }
-        coin.end(text.length());
-    }
-
-    private static int tell(CathedralCoin coin, String text) {
-        tape(coin, text);
-        return coin.text();
-    }
-
-    private static void dueFault(String text, int fault, int place) {
-        CathedralCoin coin = new CathedralCoin();
-        due("text of " + text, fault == 0 ? 0 : -1, tell(coin, text));
-        due("fault(0) of " + text, fault, coin.fault(0));
-        due("fault(1) of " + text, place, coin.fault(1));
-        due("about(10) behind " + text, 0, coin.about(10));
-    }
-
-    /** What toll takes of 100 MARKS of which 1 of 3 is paid: 33 paid, 1 of 3 cut off, 67 left. */
-    private static void dueToll(String sum, int toll) {
-        CathedralCoin coin = town(2);
-        due("text of " + sum, 0, tell(coin, "toll " + sum + ";"));
-        coin.by(0);
-        coin.grant(0, 100);
-        due("pay by " + sum, 33, coin.pay(0, 1, 1, 3));
-        due("toll by " + sum, toll, 67 - coin.marks(0));
-    }
-
+public final class PromiseTest extends Dues {
     public static void main(String[] args) {
         newObject();
         folk();
@@ -90,14 +27,11 @@ public final class PromiseTest {
         imageAndBack();
         imageOfRows();
         about();
-        System.out.println(wrong == 0 ? "all promises are kept" : wrong + " answers are not as due");
-        if (wrong != 0) {
-            System.exit(1);
-        }
+        finish();
     }
 
     private static void newObject() {
-        promise = 1;
+        sentence("promise 1");
         due("NONE", -1, CathedralCoin.NONE);
         CathedralCoin coin = new CathedralCoin();
         int[] all = {0, 0, 0, 23, 0, 0, -1, 0, 0, 0, 0};
@@ -117,7 +51,7 @@ public final class PromiseTest {
     }
 
     private static void folk() {
-        promise = 2;
+        sentence("promise 2");
         CathedralCoin coin = new CathedralCoin();
         due("folk(-1)", -1, coin.folk(-1));
         due("folk(10)", -1, coin.folk(10));
@@ -133,7 +67,7 @@ public final class PromiseTest {
     }
 
     private static void weather() {
-        promise = 3;
+        sentence("promise 3");
         CathedralCoin coin = new CathedralCoin();
         due("weather(10, 9999)", true, coin.weather(10, 9999));
         due("RAIN", 10, coin.about(2));
@@ -151,7 +85,7 @@ public final class PromiseTest {
     }
 
     private static void feedAndEnd() {
-        promise = 4;
+        sentence("promise 4");
         CathedralCoin coin = new CathedralCoin();
         // "pass" "   1" ";   " and blanks; then with the bytes of the ints the other way round it is none.
         due("feed", 20, coin.feed(0x70617373, 0x20202031, 0x3b202020, 0x20202020, 0x20202020));
@@ -165,7 +99,7 @@ public final class PromiseTest {
         }
         due("feed 16", -1, coin.feed(0, 0, 0, 0, 0));
         due("about(10)", 300, coin.about(10));
-        promise = 5;
+        sentence("promise 5");
         due("end(301)", -1, coin.end(301));
         due("end(-1)", -1, coin.end(-1));
         due("end(LOW)", -1, coin.end(LOW));
@@ -181,7 +115,7 @@ public final class PromiseTest {
     }
 
     private static void text() {
-        promise = 6;
+        sentence("promise 6");
         CathedralCoin coin = new CathedralCoin();
         due("an empty text", 0, coin.text());
         due("its FAULT", 0, coin.fault(0));
@@ -207,7 +141,7 @@ public final class PromiseTest {
     }
 
     private static void fault() {
-        promise = 7;
+        sentence("promise 7");
         CathedralCoin coin = new CathedralCoin();
         due("ahead of any", -1, coin.fault(0));
         due("ahead of any", -1, coin.fault(1));
@@ -286,7 +220,7 @@ public final class PromiseTest {
     }
 
     private static void faultsOfOrder() {
-        promise = 7;
+        sentence("promise 7");
         // 3: eight may be open around one another, in any mixture; what is closed is not open
         dueFault("toll ((((((((1))))))));", 0, -1);
         dueFault("toll (((((((((1)))))))));", 3, 13);
@@ -335,7 +269,7 @@ public final class PromiseTest {
     }
 
     private static void by() {
-        promise = 8;
+        sentence("promise 8");
         CathedralCoin coin = town(1);
         due("by(0)", false, coin.by(0));
         due("by(-2)", false, coin.by(-2));
@@ -356,7 +290,7 @@ public final class PromiseTest {
     }
 
     private static void grant() {
-        promise = 9;
+        sentence("promise 9");
         CathedralCoin coin = town(2);
         due("grant(0, 0)", -1, coin.grant(0, 0));
         due("grant(0, -5)", -1, coin.grant(0, -5));
@@ -374,7 +308,7 @@ public final class PromiseTest {
     }
 
     private static void pay() {
-        promise = 10;
+        sentence("promise 10");
         CathedralCoin coin = town(3);
         due("pay of nothing", 0, coin.pay(0, 1, 1, 2));
         due("it is a STEP", 1, coin.about(7));
@@ -408,7 +342,7 @@ public final class PromiseTest {
     }
 
     private static void sums() {
-        promise = 10;
+        sentence("promise 10");
         dueToll("marks", 67);
         dueToll("paid", 33);
         dueToll("rest*10+who", 10);
@@ -457,7 +391,7 @@ public final class PromiseTest {
     }
 
     private static void asks() {
-        promise = 10;
+        sentence("promise 10");
         dueToll("if 1<2?3:4 end", 3);
         dueToll("if 2<2?3:4 end", 4);
         dueToll("if 2<=2?3:4 end", 3);
@@ -492,7 +426,7 @@ public final class PromiseTest {
     }
 
     private static void pass() {
-        promise = 11;
+        sentence("promise 11");
         CathedralCoin coin = town(3);
         due("pass(0)", -1, coin.pass(0));
         due("pass(-1)", -1, coin.pass(-1));
@@ -547,7 +481,7 @@ public final class PromiseTest {
     }
 
     private static void played() {
-        promise = 12;
+        sentence("promise 12");
         CathedralCoin coin = town(2);
         due("played(0)", -2, coin.played(0));
         due("played(-1)", -2, coin.played(-1));
@@ -582,7 +516,7 @@ public final class PromiseTest {
     }
 
     private static void undo() {
-        promise = 13;
+        sentence("promise 13");
         CathedralCoin coin = town(2);
         due("none", -1, coin.undo());
         tell(coin, "rubs 2;");
@@ -644,7 +578,7 @@ public final class PromiseTest {
     }
 
     private static void marksAndShare() {
-        promise = 14;
+        sentence("promise 14");
         CathedralCoin coin = town(2);
         coin.grant(1, 480480);
         due("marks(0)", 0, coin.marks(0));
@@ -653,7 +587,7 @@ public final class PromiseTest {
         due("marks(2)", -2, coin.marks(2));
         due("marks(-2)", -2, coin.marks(-2));
         due("marks(HIGH)", -2, coin.marks(HIGH));
-        promise = 15;
+        sentence("promise 15");
         int[][] shares = {{-1, 1, 3}, {0, 0, 1}, {1, 2, 3}};
         for (int[] share : shares) {
             due("upper of " + share[0], share[1], coin.share(share[0], 0));
@@ -673,7 +607,7 @@ public final class PromiseTest {
     }
 
     private static void owes() {
-        promise = 16;
+        sentence("promise 16");
         CathedralCoin coin = town(3);
         due("owes oneself", -1, coin.owes(1, 1, 5));
         due("one not told", -1, coin.owes(0, 3, 5));
@@ -707,7 +641,7 @@ public final class PromiseTest {
     }
 
     private static void netted() {
-        promise = 17;
+        sentence("promise 17");
         CathedralCoin coin = town(8);
         dueNets(coin);
         due("netted(-2, 0)", -2, coin.netted(-2, 0));
@@ -757,7 +691,7 @@ public final class PromiseTest {
     }
 
     private static void married() {
-        promise = 18;
+        sentence("promise 18");
         dueMates(town(0), 0);
         dueMates(town(1), 1, 0);
         dueMates(town(2), 1, 1, 0);
@@ -797,7 +731,7 @@ public final class PromiseTest {
     }
 
     private static void bell() {
-        promise = 19;
+        sentence("promise 19");
         CathedralCoin coin = town(4);
         due("no MARKS", -1, coin.bell(5, 0));
         coin.grant(0, 1);
@@ -835,7 +769,7 @@ public final class PromiseTest {
     }
 
     private static void cost() {
-        promise = 20;
+        sentence("promise 20");
         CathedralCoin coin = town(3);
         coin.grant(1, 100);
         coin.grant(2, 1000);
@@ -869,7 +803,7 @@ public final class PromiseTest {
     }
 
     private static void best() {
-        promise = 21;
+        sentence("promise 21");
         CathedralCoin coin = town(2);
         due("none told", -1, coin.best(5, true));
         due("n 61", -2, coin.best(61, true));
@@ -889,7 +823,7 @@ public final class PromiseTest {
     }
 
     private static void seenAndRubbed() {
-        promise = 22;
+        sentence("promise 22");
         CathedralCoin coin = town(2);
         due("seen(-2)", -2, coin.seen(-2));
         due("seen(COIN + 1)", -2, coin.seen(COIN + 1));
@@ -902,7 +836,7 @@ public final class PromiseTest {
         due("SEEN", 8, coin.about(9));
         due("nothing any more", 0, coin.seen(-1));
         due("SEEN", 0, coin.about(9));
-        promise = 23;
+        sentence("promise 23");
         due("nothing is SEEN", 1, coin.rubbed(0, -1));
         due("no DAY", 0, coin.rubbed(0, 0));
         due("none such", -1, coin.rubbed(0, 1));
@@ -944,7 +878,7 @@ public final class PromiseTest {
     }
 
     private static void imageAndBack() {
-        promise = 24;
+        sentence("promise 24");
         CathedralCoin coin = town(2);
         tell(coin, "rubs 3;");
         coin.by(0);
@@ -968,7 +902,7 @@ public final class PromiseTest {
         coin.seen(6);
         tell(coin, "pass 0;");
         coin.feed(1, 2, 3, 4, 5);
-        promise = 25;
+        sentence("promise 25");
         due("back()", 2, coin.back());
         for (int i = 0; i < 10; i++) {
             due("about(" + i + ")", all[i], coin.about(i));
@@ -998,7 +932,7 @@ public final class PromiseTest {
 
     /** What is told anew behind an image doesn't reach it. */
     private static void imageOfRows() {
-        promise = 25;
+        sentence("promise 25");
         CathedralCoin coin = town(3);
         tell(coin, "rubs 3;");
         coin.by(0);
@@ -1031,7 +965,7 @@ public final class PromiseTest {
     }
 
     private static void about() {
-        promise = 26;
+        sentence("promise 26");
         CathedralCoin coin = town(3);
         coin.weather(7, 1);
         coin.owes(0, 2, 30);
