@@ -287,7 +287,8 @@ public final class RefusedTest extends Dues {
         sentence("promise 4: NONE, and none come, if there would be more than 300");
         refused("feed", NONE, FULL, coin -> coin.feed(1, 2, 3, 4, 5));
         for (int bytes : new int[] {281, 290, 299, 300}) {
-            refused("feed behind " + bytes, NONE, with(LIVELY, coin -> tape(coin, "pass 1" + times(bytes - 7, " ") + ";")),
+            String text = "pass 1" + times(bytes - 7, " ") + ";";
+            refused("feed behind " + bytes, NONE, with(LIVELY, coin -> tape(coin, text)),
                     coin -> coin.feed(0x3b3b3b3b, 0, 0, 0, 0));
         }
         for (int bytes : new int[] {0, 1, 279, 280}) {

@@ -18,6 +18,7 @@ public final class TermsEdgeTest extends Dues {
         bytes();
         signs();
         longest();
+        oneBehindTheOther();
         clauses();
         grammar();
         numbers();
@@ -429,6 +430,26 @@ public final class TermsEdgeTest extends Dues {
         dueFault("rubs 1" + times(147, "+1"), 1, 300);
     }
 
+    /** What was read ahead of it takes no room from a text, nor does one with a FAULT. */
+    private static void oneBehindTheOther() {
+        sentence("each of TEXTS 0 .. 3 has up to 300 bytes");
+        CathedralCoin coin = town(2);
+        coin.grant(0, 1000);
+        for (int i = 0; i < 4; i++) {
+            due("with a FAULT", NONE, tell(coin, "rubs 1" + times(147, "+1")));
+            String both = "rubs 1" + times(60, "+1") + ";toll " + i + times(70, "+1") + ";pass 1;";
+            due("text " + i, i, tell(coin, i % 2 == 0 ? both : "rubs 1" + times(145, "+1") + "+9;"));
+        }
+        for (int i = 0; i < 4; i++) {
+            due("rubs by " + i, i % 2 == 0 ? 61 : 155, coin.cost(0, i, 1, true));
+        }
+        coin.by(2);
+        due("pay", 333, coin.pay(0, 1, 1, 3));
+        due("toll by 2", 1000 - 333 - 72, coin.marks(0));
+        due("played(2)", NONE, coin.played(2));
+        due("behind a DAY", 1000 - 333 - 72 - 61, coin.marks(0));
+    }
+
     private static void signs() {
         sentence("TOKENS, blanks (32, 10) aside: letters, digits, signs; 1: or is none");
         for (int sign = 0; sign < 256; sign++) {
@@ -601,7 +622,8 @@ public final class TermsEdgeTest extends Dues {
     /** Random nests of all that opens: the ninth that is open has the FAULT, wherever it stands. */
     private static void openInMixtures() {
         sentence("3 the 9th of ( not if and -, in mixtures");
-        String[] heads = {"(", "-", "if ", "if 1=", "if 1=1?", "if 1=1?2:", "if not ", "if 1=1 and not not ", "2*(", "3-1--"};
+        String[] heads = {"(", "-", "if ", "if 1=", "if 1=1?", "if 1=1?2:", "if not ", "if 1=1 and not not ",
+            "2*(", "3-1--"};
         String[] tails = {")", "", "=1?2:3 end", "?2:3 end", ":3 end", " end", "=1?2:3 end", "=1?2:3 end", ")", ""};
         Random random = new Random(9);
         for (int run = 0; run < 1500; run++) {
@@ -1056,6 +1078,10 @@ public final class TermsEdgeTest extends Dues {
         due("dry, 1 and 2 and 3", 6, coin.cost(0, 0, 3, false));
         due("dry, more than one has", 1000, coin.cost(0, 0, 60, false));
         due("no more than one has", 5, coin.cost(1, 0, 60, true));
+        sentence("COST: all WET, or none: wet (1, 0)");
+        tell(coin, "rubs wet+3;");
+        due("wet is 1", 4, coin.cost(0, 1, 1, true));
+        due("wet is 0", 3, coin.cost(0, 1, 1, false));
         sentence("COST by a TEXT (NONE: none), if it ruled");
         coin.by(0);
         due("none", 0, coin.cost(0, NONE, 60, true));
@@ -1068,8 +1094,8 @@ public final class TermsEdgeTest extends Dues {
         coin.pass(9);
         due("DAY", 999, coin.about(1));
         tell(coin, "rubs day-999;");
-        due("of 3", 6, coin.cost(0, 1, 3, false));
-        due("of 0", 0, coin.cost(0, 1, 0, false));
+        due("of 3", 6, coin.cost(0, 2, 3, false));
+        due("of 0", 0, coin.cost(0, 2, 0, false));
     }
 
     private static void best() {
@@ -1089,6 +1115,12 @@ public final class TermsEdgeTest extends Dues {
         tell(coin, "rubs 0;");
         tell(coin, "rubs -1;");
         due("the lower of like ones", 2, coin.best(60, true));
+        sentence("BEST: all WET, or none: wet (1, 0)");
+        coin = shared(100);
+        tell(coin, "rubs if wet=0?5:2 end;");
+        tell(coin, "rubs if wet=1?5:2 end;");
+        due("wet is 1", 0, coin.best(1, true));
+        due("wet is 0", 1, coin.best(1, false));
     }
 
     private static void rubbed() {
@@ -1127,9 +1159,18 @@ public final class TermsEdgeTest extends Dues {
         due("one is rubbed", 0, coin.rubbed(0, NONE));
         coin.undo();
         due("it is not", 16, coin.rubbed(0, NONE));
+        sentence("WEATHERS: wet (1, 0)");
+        coin = shared(100);
+        tell(coin, "rubs wet+3;");
+        coin.by(0);
+        coin.seen(97);
+        due("wet is 0", 0, coin.rubbed(0, 0));
+        coin.seen(93);
+        due("then it is 1", 2, coin.rubbed(0, 0));
+        due("that way alone", 1, coin.rubbed(0, NONE));
         sentence("RUBBED: SEEN of more than one has is none");
         coin.seen(NONE);
-        coin.seen(4);
+        coin.seen(101);
         due("none", 0, coin.rubbed(0, NONE));
         due("the first of none", NONE, coin.rubbed(0, 0));
     }
